@@ -402,6 +402,8 @@ public final class PlanPromises {
         due("load the later one", x.load(0), 5);
         due("keep in place of a row", x.keep(1), 5);
         due("the row is gone", x.holds(1), 0);
+        due("a plan takes no element", x.set(1, 0, 1), -2);
+        due("load in place of a row", x.load(1), 5);
         due("full plan was not empty", full.isEmpty() ? 1 : 0, 0);
         x.row(2, 0, 0);
         due("keep on shelf 8", x.keep(8), -1);
@@ -410,7 +412,25 @@ public final class PlanPromises {
         due("load of shelf -1", x.load(-1), -1);
         due("load of a row", x.load(2), -2);
         due("load of nothing", x.load(3), -3);
-        refusals("keep and load", x, 4, 1, 1, 0, 0, 0, 0);
+        refusals("keep and load", x, 4, 2, 1, 0, 0, 0, 0);
+    }
+
+    private static void firstAndLastCellAreKept() {
+        FallChain x = new FallChain();
+        x.put(0, 8, 0, 0);
+        x.put(95, 8, 0, 0);
+        due("two bells", x.status(3), 2);
+        x.keep(0);
+        x.raze(0);
+        x.raze(95);
+        due("no bell", x.status(3), 0);
+        x.ball(0);
+        x.ball(95);
+        due("two balls", x.status(1), 2);
+        due("load", x.load(0), 2);
+        due("the first cell", x.at(0, 0) * 10 + x.at(0, 3), 80);
+        due("the last cell", x.at(95, 0) * 10 + x.at(95, 3), 80);
+        due("no ball", x.status(1), 0);
     }
 
     private static void atAndStatusTellNone() {
@@ -453,6 +473,7 @@ public final class PlanPromises {
         elementAndHoldsRefuseNothing();
         putsAreAllOrNone();
         plansAreKeptAndLoaded();
+        firstAndLastCellAreKept();
         atAndStatusTellNone();
         System.out.println(wrong == 0 ? "all answers are as due" : wrong + " answers are not as due");
         if (wrong != 0) {

@@ -127,14 +127,51 @@ public final class RunPromises {
         starts(x, 13, 3, 0);
         ran("ball in the next cell", x, 0, 3, 0, 1, 0);
         strikes("ball in the next cell", x, s(0, 13, 3, -1, 0, 0), s(2, 14, 3, 0, 0, 0), s(3, 15, 3, 1, 0, 1));
-        // A lever is no domino: it never reaches over a gap.
-        x = with(p(13, 2, 1, 0), p(15, 8, 0, 0));
-        starts(x, 13, 3, 0);
-        ran("lever", x, 0, 1, 1, 0, 0);
+        x = with(p(2, 1, 1, 0), p(0, 8, 0, 0));
+        starts(x, 2, 1, 0);
+        ran("gap before the first cell", x, 0, 2, 0, 1, 0);
         // The row's edge is the plan's edge: cell 12 is not behind cell 11.
         x = with(p(10, 1, 1, 0), p(12, 8, 0, 0));
         starts(x, 10, 3, 0);
         ran("round the edge", x, 0, 2, 1, 0, 0);
+    }
+
+    private static void onlyDominoesReachOverAGap() {
+        int[][] others = {p(13, 2, 1, 0), p(13, 4, 1, 1), p(13, 5, 0, 0), p(13, 6, 1, 1)};
+        for (int[] other : others) {
+            FallChain x = with(other, p(15, 8, 0, 0), p(37, 8, 0, 0));
+            starts(x, 13, 3, 0);
+            ran("kind " + other[1], x, 0, 1, other[1] == 5 ? 3 : 1, 0, 0);
+            due("the gap is struck", x.ended(14, 2), 1);
+        }
+        FallChain x = with(p(15, 8, 0, 0));
+        x.cords(13, 1, 50, 0);
+        starts(x, 50, 1, 0, 14, 3, 5);
+        ran("a cord", x, 0, 5, 2, 0, 0);
+        due("starts and cords strike the gap", x.ended(14, 2), 2);
+        x = with(ball(13), p(16, 8, 0, 0));
+        starts(x, 13, 3, 0);
+        ran("a ball", x, 0, 3, 0, 1, 0);
+        due("a ball goes up to the bell", x.ended(15, 3), 1);
+    }
+
+    private static void eachRunBeginsAnew() {
+        FallChain x = with(ball(11), p(40, 8, 0, 0), p(50, 7, 0, 0), p(60, 1, 0, 0));
+        starts(x, 11, 3, 0, 40, 0, 0, 50, 0, 0, 60, 0, 0);
+        for (int i = 0; i < 2; i++) {
+            ran("twice", x, 0, 2, 1, 1, 1);
+            due("rings", x.ended(40, 1), 1);
+            due("strikes of a cell", x.ended(50, 2), 1);
+            due("strikes", x.ran(2), 5);
+            due("open and down", x.ended(50, 4) + x.ended(60, 4), 2);
+        }
+        due("rung by number 1", x.why(40, 0), 1);
+        x.noStarts();
+        starts(x, 40, 0, 3);
+        ran("another start", x, 0, 3, 0, 1, 0);
+        due("rung by number 0", x.why(40, 0), 0);
+        due("the ball lies", x.ended(11, 3), 1);
+        due("shut and standing", x.ended(50, 4) + x.ended(60, 4), 0);
     }
 
     private static void aGapIsSeenWhenTheStrikeIsDone() {
@@ -532,6 +569,15 @@ public final class RunPromises {
         due("rings, no elements", x.tune(0), 0);
         x.raze(13);
         due("the latest run counts", x.tune(2), 3);
+        x.noStarts();
+        x.put(13, 8, 0, 0);
+        starts(x, 13, 0, 0, 20, 0, 0);
+        x.run();
+        x.row(5, 2, 1);
+        due("two rings in tick 0, one element", x.tune(5), 1);
+        due("two rings in tick 0, no element", x.tune(0), 0);
+        x.row(5, 2, 2);
+        due("two rings in tick 0, two elements", x.tune(5), 1000);
         x.keep(3);
         due("shelf 8", x.tune(8), -1);
         due("shelf -1", x.tune(-1), -1);
@@ -546,6 +592,8 @@ public final class RunPromises {
         nothingHappens();
         dominoesFall();
         dominoesReachOverAGap();
+        onlyDominoesReachOverAGap();
+        eachRunBeginsAnew();
         aGapIsSeenWhenTheStrikeIsDone();
         leversLead();
         cordsPull();

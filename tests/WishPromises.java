@@ -125,6 +125,40 @@ public final class WishPromises {
         due("the ball is still there", y.at(13, 3), 1);
     }
 
+    private static void aShiftedBallIsStruckWhereItLies() {
+        FallChain x = new FallChain();
+        x.ball(13);
+        x.put(15, 8, 0, 0);
+        x.start(13, 3, 0);
+        x.start(12, 3, 0);
+        // From cell 12 it rolls to the bell as well, a tick later.
+        weak("in any tick", x, 15, -1, 108, 109, 110);
+        weak("in tick 2", x, 15, 2, 108, 109, 110, 111);
+    }
+
+    private static void theFirstCellIsShiftedToo() {
+        FallChain x = new FallChain();
+        x.put(0, 1, 1, 0);
+        x.put(1, 8, 0, 0);
+        x.start(0, 3, 0);
+        weak("the first cell", x, 1, -1, 2);
+        FallChain y = new FallChain();
+        y.put(95, 1, 1, 0);
+        y.put(94, 8, 0, 0);
+        y.start(95, 1, 0);
+        weak("the last cell", y, 94, -1, 760);
+    }
+
+    private static void aShiftedCordIsPulledByTheOtherOne() {
+        // Cord 13 leads to the bell; from cell 1 it leads to the lever at 2, which strikes the bell as well.
+        FallChain x = new FallChain();
+        x.cords(13, 1, 50, 3);
+        x.put(2, 2, 2, 0);
+        x.put(14, 8, 0, 0);
+        x.start(50, 1, 0);
+        weak("the other cord is struck", x, 14, -1, 106, 107, 400, 401, 402, 403);
+    }
+
     private static void tiesHoldWhenACordIsShifted() {
         FallChain x = new FallChain();
         x.cords(13, 1, 50, 1);
@@ -228,6 +262,25 @@ public final class WishPromises {
         due("the plan stays", x.at(13, 0), 0);
     }
 
+    private static void piecesAreOfEachForm() {
+        int[][] starts = {{0, 0, 12}, {0, 3, 1}, {95, 1, 83}, {95, 0, 94}, {40, 0, 41}, {40, 3, 52}};
+        int[][] due = {{10, 2}, {11, 2}, {9520, 1}, {9523, 1}, {4021, 1}, {4022, 1}};
+        for (int i = 0; i < starts.length; i++) {
+            FallChain x = new FallChain();
+            x.put(starts[i][2], 8, 0, 0);
+            x.start(starts[i][0], starts[i][1], 0);
+            fewest("form " + i, x, starts[i][2], due[i][1], 1, due[i][0]);
+        }
+        FallChain x = new FallChain();
+        x.put(13, 8, 0, 0);
+        x.start(0, 0, 0);
+        fewest("the first piece in the first cell", x, 13, 3, 2, 10, 1221);
+        FallChain y = new FallChain();
+        y.put(12, 8, 0, 0);
+        y.start(1, 1, 0);
+        fewest("the second piece in the first cell", y, 12, 3, 2, 111, 22);
+    }
+
     private static void theLeastRowOfTwo() {
         // From 13 to the bell at 40 (4, 3): two pieces, the first of which is on 13, where the start is lost.
         FallChain x = new FallChain();
@@ -277,11 +330,15 @@ public final class WishPromises {
         fragileTellsWeakShifts();
         aTickMayBreakByAShift();
         ballsShiftOffTheirTracks();
+        aShiftedBallIsStruckWhereItLies();
+        theFirstCellIsShiftedToo();
+        aShiftedCordIsPulledByTheOtherOne();
         tiesHoldWhenACordIsShifted();
         fitsAreFound();
         tracksAndGatesFit();
         refusedFitsKeepTheLatest();
         theFewestPieces();
+        piecesAreOfEachForm();
         theLeastRowOfTwo();
         onlyWhereAStrikeIsLost();
         System.out.println(wrong == 0 ? "all answers are as due" : wrong + " answers are not as due");

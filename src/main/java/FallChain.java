@@ -64,9 +64,10 @@ public final class FallChain {
     private static final int ROOM = -7;
     private static final int REFUSALS = 8;
 
-    private final Plan plan = new Plan();
-    // What a wish tries is done to the draft, so that the plan stays as it is.
-    private final Plan draft = new Plan();
+    private final Plan plan;
+    // What a wish or puts() tries is done to the draft, so that the plan stays as it is.
+    private final Plan draft;
+    // Of a shelf's two places one at most is not null.
     private final Row[] rows = new Row[SHELVES];
     private final Plan[] plans = new Plan[SHELVES];
     private final Run latest;
@@ -84,10 +85,14 @@ public final class FallChain {
     private final boolean[] lostNext = new boolean[CELLS];
 
     public FallChain() {
+        Plan own = new Plan();
+        Plan tried = new Plan();
         // A run leaves nothing in the calendar that another one needs, and no call asks for strikes of a trial.
         Calendar calendar = new Calendar();
-        latest = new Run(plan, calendar, new Log(MOST_STRIKES));
-        trial = new Run(draft, calendar, new Log(0));
+        plan = own;
+        draft = tried;
+        latest = new Run(own, calendar, new Log(MOST_STRIKES));
+        trial = new Run(tried, calendar, new Log(0));
     }
 
     // ---- the plan
@@ -547,7 +552,7 @@ public final class FallChain {
         return NONE;
     }
 
-    /** Choices rise as the numbers that fewestPiece() tells. */
+    /** Choices rise as the numbers that fewestPiece() tells, so the first row that does is the least one. */
     private boolean placeChoice(boolean[] lost, int choice) {
         int cell = choice / CHOICES;
         // The draft has all that the plan has, so a cell that is free in it is free in the plan.
@@ -1160,7 +1165,7 @@ public final class FallChain {
         }
 
         private boolean isVoid(int cell) {
-            return plan.kindOf(cell) == NO_PIECE && balls.numberIn(cell) == NONE;
+            return isCell(cell) && plan.kinds[cell] == NO_PIECE && balls.numbers[cell] == NONE;
         }
 
         private void rollBalls() {
@@ -1205,7 +1210,7 @@ public final class FallChain {
             return way;
         }
 
-        /** Puts a strike that is done now on record, and tells its number. */
+        /** Tells the strike's number, which is the cause of all that comes of it. */
         private int note(int cell, int side, int cause, int flags) {
             int number = log.count;
             int how = flags;
@@ -1229,7 +1234,6 @@ public final class FallChain {
             return number;
         }
 
-        /** What comes of a strike. */
         private void work(int cell, int side, int number) {
             int ball = balls.numberIn(cell);
             if (!isCell(cell)) {
@@ -1256,7 +1260,10 @@ public final class FallChain {
                     }
                     break;
                 case CORD:
-                    pull(cell, plan.otherOf(cell), number);
+                    int other = plan.otherOf(cell);
+                    if (isCell(other) && hits[cell] == 1 && hits[other] == 0) {
+                        setStrike(1, other, plan.aOf(other), number, false);
+                    }
                     break;
                 case TIMER:
                     if (hits[cell] == 1) {
@@ -1280,12 +1287,6 @@ public final class FallChain {
                     break;
                 default:
                     break;
-            }
-        }
-
-        private void pull(int cell, int other, int number) {
-            if (isCell(cell) && isCell(other) && hits[cell] == 1 && hits[other] == 0) {
-                setStrike(1, other, plan.aOf(other), number, false);
             }
         }
 
