@@ -334,12 +334,13 @@ public final class PlanPromises {
 
     private static void putsAreAllOrNone() {
         FallChain x = new FallChain();
-        fill(x, 0, 3, 4294967296L + 5, 8, -1, -1, 6, 10, 99, 99, 6, 9, 5, 3, 7, 6, 2, 9);
+        fill(x, 0, 3, 4294967296L + 5, 8, -1, -1, 6, 10, 99, 99, 6, 9, 5, 3, 7, 6, 2, 8);
         due("puts", x.puts(0), 4);
         due("bell of the lowest 32 bits", x.at(5, 0), 8);
         due("ball", x.at(6, 3), 1);
         due("track under the ball", x.at(6, 1), 5);
-        due("bucket b", x.at(7, 2), 9);
+        due("bucket a", x.at(7, 1), 2);
+        due("bucket b", x.at(7, 2), 8);
         due("pieces", x.status(0), 3);
         due("once more", x.puts(0), -6);
         fill(x, 1, 0, 20, 1, 0, 0, 21, 1, 2, 0);

@@ -262,6 +262,13 @@ public final class RunPromises {
         strikes("bells", x, s(4, 13, 2, -1, 0, 0), s(4, 20, 1, -1, 0, 0), s(4, 13, 3, -1, 0, 0), s(8, 13, 0, -1, 0, 0));
     }
 
+    private static void aRingEndsNoRun() {
+        FallChain x = with(p(0, 8, 0, 0));
+        starts(x, 0, 3, 0, 50, 0, 5, 0, 0, 7);
+        ran("a bell in the first cell", x, 0, 7, 1, 2, 0);
+        due("rings", x.ended(0, 1), 2);
+    }
+
     private static void gatesAndTracksTakeStrikes() {
         FallChain x = with(p(13, 7, 0, 0), p(20, 9, 3, 0));
         starts(x, 13, 0, 1, 13, 0, 2, 20, 0, 3);
@@ -601,6 +608,7 @@ public final class RunPromises {
         splitsSpread();
         bucketsTip();
         bellsRing();
+        aRingEndsNoRun();
         gatesAndTracksTakeStrikes();
         ballsRollSixSteps();
         ballsRollOff();

@@ -275,6 +275,21 @@ public final class WishPromises {
         x.put(13, 8, 0, 0);
         x.start(0, 0, 0);
         fewest("the first piece in the first cell", x, 13, 3, 2, 10, 1221);
+        // Another bell's ring in tick 0 does not end the run in which the start of tick 3 is lost.
+        FallChain z = new FallChain();
+        z.put(0, 8, 0, 0);
+        z.put(41, 8, 0, 0);
+        z.start(0, 3, 0);
+        z.start(40, 3, 3);
+        fewest("lost behind another ring", z, 41, 4, 1, 4021);
+        // Nor does the wish's own tick: a lever on the gap, where a start is lost in tick 50, is struck in tick 2.
+        FallChain w = new FallChain();
+        w.put(13, 1, 1, 0);
+        w.put(15, 7, 0, 0);
+        w.put(26, 8, 0, 0);
+        w.start(13, 3, 0);
+        w.start(14, 1, 50);
+        fewest("lost behind the wish's tick", w, 26, 3, 1, 1422);
         FallChain y = new FallChain();
         y.put(12, 8, 0, 0);
         y.start(1, 1, 0);
