@@ -1,4 +1,5 @@
 import java.util.ArrayList;
+import java.util.Arrays;
 import java.util.List;
 
 /**
@@ -541,6 +542,73 @@ public final class EdgeRefusals {
         }
     }
 
+    // ---- any numbers
+
+    private static final int[] EDGES = {LEAST, -1, 0, 3, 8, 96, GREATEST};
+    private static final int CALLS_ON_ONE = 400;
+
+    private interface CallOfNumbers {
+        long on(FallChain x, int[] g);
+    }
+
+    /** Each row of so many edges as arguments: nothing is thrown, and what is below 0 is a number that the promise names. */
+    private static void anyNumbers(String what, int count, CallOfNumbers call, int... named) {
+        int rows = 1;
+        for (int i = 0; i < count; i++) {
+            rows *= EDGES.length;
+        }
+        FallChain x = full();
+        int[] g = new int[count];
+        for (int row = 0; row < rows; row++) {
+            if (row % CALLS_ON_ONE == 0) {
+                x = full();
+            }
+            int rest = row;
+            for (int i = 0; i < count; i++) {
+                g[i] = EDGES[rest % EDGES.length];
+                rest /= EDGES.length;
+            }
+            long answer = call.on(x, g);
+            boolean right = answer >= 0;
+            for (int n : named) {
+                right |= answer == n;
+            }
+            due(what + " of " + Arrays.toString(g) + ", not named: ", right ? 0 : answer, 0);
+        }
+    }
+
+    private static void eachCallWithAnyNumbers() {
+        anyNumbers("put", 4, (x, g) -> x.put(g[0], g[1], g[2], g[3]), -1, -6);
+        anyNumbers("cords", 4, (x, g) -> x.cords(g[0], g[1], g[2], g[3]), -1, -6);
+        anyNumbers("ball", 1, (x, g) -> x.ball(g[0]), -1, -6);
+        anyNumbers("raze", 1, (x, g) -> x.raze(g[0]), -1);
+        anyNumbers("start", 3, (x, g) -> x.start(g[0], g[1], g[2]), -1, -6, -7);
+        anyNumbers("noStarts", 0, (x, g) -> x.noStarts());
+        anyNumbers("row", 3, (x, g) -> x.row(g[0], g[1], g[2]), -1, -4, -6, -7);
+        anyNumbers("set", 3, (x, g) -> x.set(g[0], g[1], g[2]), -1, -2, -3, -5);
+        anyNumbers("copy", 5, (x, g) -> x.copy(g[0], g[1], g[2], g[3], g[4]), -1, -2, -3, -4, -5);
+        anyNumbers("element", 2, (x, g) -> Math.abs(x.element(g[0], g[1])));
+        anyNumbers("holds", 1, (x, g) -> x.holds(g[0]), -1);
+        anyNumbers("puts", 1, (x, g) -> x.puts(g[0]), -1, -2, -3, -6);
+        anyNumbers("keep", 1, (x, g) -> x.keep(g[0]), -1);
+        anyNumbers("load", 1, (x, g) -> x.load(g[0]), -1, -2, -3);
+        anyNumbers("at", 2, (x, g) -> x.at(g[0], g[1]), -1);
+        anyNumbers("run", 0, (x, g) -> x.run());
+        anyNumbers("ran", 1, (x, g) -> x.ran(g[0]), -1);
+        anyNumbers("strike", 2, (x, g) -> x.strike(g[0], g[1]), -1);
+        anyNumbers("ended", 2, (x, g) -> x.ended(g[0], g[1]), -1);
+        anyNumbers("why", 2, (x, g) -> x.why(g[0], g[1]), -1);
+        anyNumbers("met", 2, (x, g) -> x.met(g[0], g[1]) ? 1 : 0);
+        anyNumbers("fragile", 2, (x, g) -> x.fragile(g[0], g[1]), -1);
+        anyNumbers("weak", 1, (x, g) -> x.weak(g[0]), -1);
+        anyNumbers("fits", 3, (x, g) -> x.fits(g[0], g[1], g[2]), -1, -6);
+        anyNumbers("fit", 1, (x, g) -> x.fit(g[0]), -1);
+        anyNumbers("fewest", 2, (x, g) -> x.fewest(g[0], g[1]), -1);
+        anyNumbers("fewestPiece", 1, (x, g) -> x.fewestPiece(g[0]), -1);
+        anyNumbers("tune", 1, (x, g) -> x.tune(g[0]), -1, -2, -3);
+        anyNumbers("status", 1, (x, g) -> x.status(g[0]), -1);
+    }
+
     public static void main(String[] args) {
         put();
         cords();
@@ -556,6 +624,7 @@ public final class EdgeRefusals {
         tune();
         whatIsAnsweredWithoutARefusal();
         wishesOfNoBellAreNotRefused();
+        eachCallWithAnyNumbers();
         System.out.println(wrong == 0 ? "all answers are as due" : wrong + " answers are not as due");
         if (wrong != 0) {
             System.exit(1);

@@ -398,6 +398,57 @@ public final class EdgeWishes {
         due("none are told", y.weak(0), -1);
     }
 
+    /** Dominoes with gaps to and fro through the odd rows; what stands beside a gap breaks the chain if it is shifted there. */
+    private static List<int[]> dominoesToAndFro() {
+        List<int[]> pieces = new ArrayList<>();
+        int[][] dominoes = {{0, 2, 4, 6, 8, 10}, {2, 4, 6, 8, 10}, {1, 2, 4, 6, 8, 10}, {2, 4, 6, 8, 10}};
+        int[][] turns = {{23, 2, 2}, {35, 1, 0}, {47, 2, 3}, {36, 2, 2}, {48, 1, 0}, {60, 2, 1}, {71, 2, 2}, {83, 1, 0}, {95, 2, 3}};
+        for (int row = 0; row < 4; row++) {
+            for (int x : dominoes[row]) {
+                pieces.add(new int[] {12 * (2 * row + 1) + x, 1, 1});
+            }
+            for (int x = 1; x <= 9; x += 2) {
+                pieces.add(new int[] {24 * row + x, 1, 0});
+            }
+        }
+        pieces.addAll(List.of(turns));
+        pieces.add(new int[] {84, 8, 0});
+        return pieces;
+    }
+
+    private static FallChain with(List<int[]> pieces, int from, int to) {
+        FallChain x = new FallChain();
+        for (int[] p : pieces) {
+            due("made: kind " + p[1], x.put(p[0] == from ? to : p[0], p[1], p[2], 0), 1);
+        }
+        x.start(12, 3, 0);
+        return x;
+    }
+
+    private static void moreThanAHundredShifts() {
+        List<int[]> pieces = dominoesToAndFro();
+        int[] kinds = new int[96];
+        for (int[] p : pieces) {
+            kinds[p[0]] = p[1];
+        }
+        List<Integer> due = new ArrayList<>();
+        for (int cell = 0; cell < 96; cell++) {
+            for (int side = 0; side < 4; side++) {
+                int to = next(cell, side);
+                boolean shift = kinds[cell] != 0 && kinds[cell] != 8 && to >= 0 && kinds[to] == 0;
+                if (shift && met(with(pieces, cell, to), 84, ANY) == 0) {
+                    due.add(8 * cell + side);
+                }
+            }
+        }
+        due("more than a hundred", due.size() > 100 ? 1 : 0, 1);
+        int[] shifts = new int[due.size()];
+        for (int i = 0; i < shifts.length; i++) {
+            shifts[i] = due.get(i);
+        }
+        weak("dominoes to and fro", with(pieces, 0, 0), 84, ANY, shifts);
+    }
+
     // ---- fits
 
     private static int[] allForms() {
@@ -648,6 +699,7 @@ public final class EdgeWishes {
         noBallIsShiftedOntoATrack();
         cordsStayTiedAsTheyAreShifted();
         fromNoneToManyShifts();
+        moreThanAHundredShifts();
         allThatFits();
         timersOf9AndBucketsOf3();
         whatFitsAndRefusals();
