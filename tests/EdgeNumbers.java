@@ -613,6 +613,12 @@ public final class EdgeNumbers {
         due("a", x.at(40, 1), 3);
         due("b", x.at(40, 2), 60);
         due("ball", x.at(41, 3), 1);
+        int[][] timers = {{50, 0, 1, 1}, {51, 0, 60, 1}, {52, 3, 0, -6}, {53, 3, 61, -6}, {54, 4, 4, -6}, {55, -1, 5, -6}};
+        for (int[] t : timers) {
+            fill(x, 1, 0, t[0], 4, t[1], t[2]);
+            due("a timer on " + t[0], x.puts(1), t[3]);
+            due("its b", x.at(t[0], 2), t[3] == 1 ? t[2] : 0);
+        }
         fill(x, 1, 0, -1, 8, 0, 0);
         due("cell -1 of bytes", x.puts(1), -6);
         fill(x, 1, 0, 127, 8, 0, 0);

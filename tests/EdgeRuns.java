@@ -576,6 +576,8 @@ public final class EdgeRuns {
             x.run();
             due("struck, kind " + p[0], x.ended(40, 2), 1);
             due("neither down nor open, kind " + p[0], x.ended(40, 4), 0);
+            due("rings of kind " + p[0], x.ended(40, 1), p[0] == 8 ? 1 : 0);
+            due("first ring of kind " + p[0], x.ended(40, 0), p[0] == 8 ? 0 : -1);
         }
         FallChain x = new FallChain();
         x.cords(40, 0, 60, 0);
@@ -620,6 +622,51 @@ public final class EdgeRuns {
         due("on a ball", x.strike(1, 4), 0);
         due("on a ball on a track", x.strike(2, 4), 0);
         due("on nothing", x.strike(3, 4), 1);
+    }
+
+    /** Strike 2 sets it off, in tick 9; the causes are numbers of strikes, not of ticks or cells. */
+    private static void theCauseIsTheStrikeThatSet() {
+        int[][] on = {{1, 1, 0}, {2, 1, 0}, {4, 1, 7}, {5, 0, 0}, {6, 1, 1}};
+        for (int[] p : on) {
+            FallChain x = new FallChain();
+            x.start(90, 0, 3);
+            x.start(90, 0, 4);
+            x.start(40, 3, 9);
+            x.put(40, p[0], p[1], p[2]);
+            x.run();
+            due("starts have no cause", x.strike(0, 3) + x.strike(1, 3) + x.strike(2, 3), -3);
+            due("set off by kind " + p[0], x.strike(3, 3), 2);
+            x.noStarts();
+            x.start(90, 0, 3);
+            x.start(90, 0, 4);
+            x.start(38, 3, 9);
+            x.ball(38);
+            x.run();
+            due("by a ball, kind " + p[0], x.strike(3, 3), 2);
+            due("set off by what a ball struck, kind " + p[0], x.strike(4, 3), 3);
+        }
+        FallChain x = new FallChain();
+        x.cords(40, 1, 62, 1);
+        x.start(90, 0, 3);
+        x.start(90, 0, 4);
+        x.start(62, 3, 9);
+        x.run();
+        due("set off by a cord", x.strike(3, 3), 2);
+        // A ball that was struck by a ball was made to roll by that strike.
+        x = new FallChain();
+        x.ball(38);
+        x.ball(40);
+        x.put(42, 8, 0, 0);
+        x.start(90, 0, 3);
+        x.start(90, 0, 4);
+        x.start(38, 3, 9);
+        x.run();
+        due("the second ball's strike is of the bell", x.strike(4, 1), 42);
+        due("set off by the first ball's strike", x.strike(4, 3), 3);
+        int[] row = {2, 3, 4, -1};
+        for (int i = 0; i < 4; i++) {
+            due("why(42, " + i + ")", x.why(42, i), row[i]);
+        }
     }
 
     private static void gatesAreOpenForGood() {
@@ -1059,6 +1106,7 @@ public final class EdgeRuns {
         aRingInTheFirstCellEndsNoRun();
         onlyDominoesAndGatesChange();
         lostStrikes();
+        theCauseIsTheStrikeThatSet();
         gatesAreOpenForGood();
         theRunLeavesThePlan();
         eachRunBeginsAnew();

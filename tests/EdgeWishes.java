@@ -365,6 +365,27 @@ public final class EdgeWishes {
         weak("and on one more side", y, 61, ANY, 323, 480, 482);
     }
 
+    /** What is shifted down is struck a tick earlier there, and leads round a lever: so the bell rings in the same tick. */
+    private static void whatIsShiftedKeepsItsAAndB() {
+        FallChain x = new FallChain();
+        x.put(40, 4, 1, 7);
+        x.put(41, 8, 0, 0);
+        x.put(53, 2, 0, 0);
+        x.start(40, 3, 1);
+        x.start(52, 3, 0);
+        weak("a timer", x, 41, 8, 320, 323);
+        FallChain y = new FallChain();
+        y.put(40, 6, 1, 2);
+        y.put(41, 8, 0, 0);
+        y.put(53, 2, 0, 0);
+        y.start(40, 3, 1);
+        y.start(40, 3, 2);
+        y.start(52, 3, 0);
+        y.start(52, 3, 1);
+        // On 52 the lever leads the starts there to the bucket.
+        weak("a bucket", y, 41, 3, 320, 323, 427);
+    }
+
     private static void fromNoneToManyShifts() {
         FallChain x = new FallChain();
         x.put(40, 8, 0, 0);
@@ -667,6 +688,7 @@ public final class EdgeWishes {
         x.ball(60);
         x.start(38, 3, 0);
         x.start(60, 3, 0);
+        x.start(90, 3, 9);
         x.run();
         for (int tick : new int[] {ANY, 0, 2, 399}) {
             x.met(40, tick);
@@ -677,9 +699,11 @@ public final class EdgeWishes {
             due("the domino", x.at(38, 0), 1);
             due("the ball", x.at(60, 3), 1);
             due("the gap", x.at(39, 0), 0);
-            due("starts", x.status(2), 2);
+            due("starts", x.status(2), 3);
             due("run() calls", x.status(4), 1);
-            due("strikes", x.ran(2), 3);
+            due("strikes", x.ran(2), 4);
+            due("lost", x.ran(3), 1);
+            due("the last tick", x.ran(1), 9);
             due("the first ring", x.ended(40, 0), 2);
             due("the ball's end", x.ended(66, 3), 1);
         }
@@ -698,6 +722,7 @@ public final class EdgeWishes {
         theTrackStaysUnderABallThatIsShifted();
         noBallIsShiftedOntoATrack();
         cordsStayTiedAsTheyAreShifted();
+        whatIsShiftedKeepsItsAAndB();
         fromNoneToManyShifts();
         moreThanAHundredShifts();
         allThatFits();
